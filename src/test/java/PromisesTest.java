@@ -480,5 +480,10 @@ public final class PromisesTest {
                     Integer.parseInt(due[2]));
             checks.dueState("after compare", loom, due[0], due[1]);
         }
+        // What was cut or dropped may still stand behind the end, and is not compared.
+        TextLoom shorter = Checks.loomWith("abz", "aby");
+        shorter.cut(2, 3);
+        shorter.lift(0, 2);
+        checks.due("compare() of what was the beginning", shorter.compare(), 0);
     }
 }
