@@ -10,6 +10,14 @@ final class Checks {
         topic = newTopic;
     }
 
+    int asked() {
+        return asked;
+    }
+
+    int wrong() {
+        return wrong;
+    }
+
     void due(String call, Object got, Object want) {
         asked++;
         if (!got.equals(want)) {
